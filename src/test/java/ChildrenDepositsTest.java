@@ -6,6 +6,7 @@ public final class ChildrenDepositsTest {
         childrenTold();
         childrenFull();
         fatesTold();
+        birthsOfFirstAndLast();
         fatesBeyond();
         fatesFull();
         fateAsKnown();
@@ -20,7 +21,8 @@ public final class ChildrenDepositsTest {
         asKinds();
         sold();
         soldInTheSameMonth();
-        soldTooOften();
+        soldTooOften(0);
+        soldTooOften(11);
         sellFindingsInOrder();
         holderInMonths();
         EXPECT.end();
@@ -69,6 +71,18 @@ public final class ChildrenDepositsTest {
         EXPECT.is("count", x.count(3), 6);
     }
 
+    private static void birthsOfFirstAndLast() {
+        DowryFund x = new DowryFund();
+        x.months(9);
+        for (int i = 0; i < 30; i++) {
+            x.child(i == 0 ? 5 : i == 29 ? 7 : 0);
+        }
+        EXPECT.is("before the first one's birth", x.fate(0, 2, 4), Expect.BEYOND);
+        EXPECT.is("in its month", x.fate(0, 2, 5), 1);
+        EXPECT.is("before the last one's birth", x.fate(29, 0, 6), Expect.BEYOND);
+        EXPECT.is("in its month", x.fate(29, 0, 7), 2);
+    }
+
     private static void fatesBeyond() {
         DowryFund x = withChildren(2);
         EXPECT.is("child -1", x.fate(-1, 0, 5), Expect.BEYOND);
@@ -94,6 +108,7 @@ public final class ChildrenDepositsTest {
         EXPECT.is("beyond ahead of full", x.fate(0, 4, 5), Expect.BEYOND);
         EXPECT.is("count", x.count(3), 90);
         EXPECT.is("the 90th holds", x.told(0, 0, true), 90);
+        EXPECT.is("the 90th is a death", x.told(0, 0, false), 2);
     }
 
     private static void fateAsKnown() {
@@ -310,8 +325,9 @@ public final class ChildrenDepositsTest {
         EXPECT.is("the month before stays", x.holder(0, 0), 5);
     }
 
-    private static void soldTooOften() {
+    private static void soldTooOften(int made) {
         DowryFund x = withChildren(1);
+        x.months(made);
         x.deposit(0, 0, 0, 5, 0);
         EXPECT.is("the month it was made isn't counted", x.sell(0, 9), 0);
         for (int i = 1; i <= 6; i++) {
@@ -322,11 +338,11 @@ public final class ChildrenDepositsTest {
         EXPECT.is("and again", x.sell(0, 7), 8);
         x.months(1);
         EXPECT.is("in the seventh", x.sell(0, 8), Expect.FULL);
-        EXPECT.is("stays", x.holder(0, 7), 7);
-        EXPECT.is("in the sixth", x.holder(0, 6), 7);
-        EXPECT.is("in the fifth", x.holder(0, 5), 5);
-        EXPECT.is("in the first", x.holder(0, 1), 1);
-        EXPECT.is("when it was made", x.holder(0, 0), 9);
+        EXPECT.is("stays", x.holder(0, made + 7), 7);
+        EXPECT.is("in the sixth", x.holder(0, made + 6), 7);
+        EXPECT.is("in the fifth", x.holder(0, made + 5), 5);
+        EXPECT.is("in the first", x.holder(0, made + 1), 1);
+        EXPECT.is("when it was made", x.holder(0, made), 9);
     }
 
     private static void sellFindingsInOrder() {

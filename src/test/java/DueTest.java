@@ -11,6 +11,7 @@ public final class DueTest {
         delayed();
         delayedBehindTheLastMonth();
         asKnown();
+        knownBeforeItWasMade();
         decreesAsKnown();
         fateBeforeItWasMade();
         jointFates();
@@ -155,6 +156,22 @@ public final class DueTest {
         dueIs(x, 3, 10, 6, 6, 5, 2);
         dueIsNone(x, 3, 9);
         dueIsNone(x, 3, 4);
+    }
+
+    private static void knownBeforeItWasMade() {
+        DowryFund x = withDeposits();
+        x.fate(0, 2, 100);
+        x.months(1);
+        x.fate(0, 3, 0);
+        x.months(1);
+        x.deposit(0, 0, 0, 40, 0);
+        EXPECT.is("foretold without it", x.foretold(100), 0);
+        dueIs(x, 0, 0, 100, 100, 50, 2);
+        dueIsNone(x, 3, 0);
+        x.fate(0, 2, 100);
+        dueIsNone(x, 3, 0);
+        dueIsNone(x, 3, 1);
+        dueIs(x, 3, 2, 100, 100, 20, 2);
     }
 
     private static void decreesAsKnown() {

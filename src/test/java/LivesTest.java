@@ -7,6 +7,7 @@ public final class LivesTest {
         livesBeyond();
         valuesAndLeft();
         eachIsCut();
+        valueIsCut();
         spans();
         spansBeyond();
         EXPECT.end();
@@ -69,6 +70,15 @@ public final class LivesTest {
         EXPECT.is("counted", x.value(0, 5, 100000), 99933);
         EXPECT.is("from 2", x.value(2, 4, 100000), 0);
         EXPECT.is("left from 2", x.left(2, 4), 997);
+    }
+
+    private static void valueIsCut() {
+        DowryFund x = new DowryFund();
+        x.lives(0, 0, 999, 0);
+        x.lives(1, 0, 9, 0);
+        EXPECT.is("99900.9", x.value(0, 2, 100000), 99900);
+        x.lives(1, 0, 10, 0);
+        EXPECT.is("99901", x.value(0, 2, 100000), 99901);
     }
 
     private static void spans() {

@@ -4,6 +4,7 @@ public final class PurseTest {
 
     public static void main(String[] args) {
         income();
+        incomeFull();
         paidWhole();
         paidByParts();
         leftOverToTheLeast();
@@ -54,6 +55,20 @@ public final class PurseTest {
         EXPECT.is("far below", x.income(Integer.MIN_VALUE), Expect.BEYOND);
         purseIs("income", x, 1000001, 1000001, 0, 0, 0, 0);
         EXPECT.is("found", x.found(1), 3);
+    }
+
+    /** Only behind more calls than the document promises for can the purse be full. */
+    private static void incomeFull() {
+        DowryFund x = new DowryFund();
+        for (int i = 0; i < 999; i++) {
+            x.income(1000000);
+        }
+        x.income(999999);
+        EXPECT.is("one above", x.income(2), Expect.FULL);
+        EXPECT.is("beyond ahead of full", x.income(1000001), Expect.BEYOND);
+        EXPECT.is("just full", x.income(1), 1000000000);
+        EXPECT.is("full", x.income(1), Expect.FULL);
+        purseIs("full", x, 1000000000, 1000000000, 0, 0, 0, 0);
     }
 
     private static void paidWhole() {
